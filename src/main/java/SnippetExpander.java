@@ -1160,7 +1160,7 @@ public final class SnippetExpander {
         final boolean[] isShown = new boolean[MAX_OCCURRENCES];
         final int[] shownDefaults = new int[FIELDS];
         final int[] shownCounts = new int[FIELDS];
-        // Would-be lengths can pass an int, and NUMBER needs their exact digits.
+        // What would be told can be longer than an int can say.
         final long[] valueLengths = new long[FIELDS];
         long textLength;
         final int[] order = new int[FIELDS];

@@ -5,6 +5,10 @@ public final class AllTests {
     public static void main(String[] args) {
         watch();
         Suite suite = new Suite();
+        LibraryTests.addTo(suite);
+        SessionTests.addTo(suite);
+        ActTests.addTo(suite);
+        UndoTests.addTo(suite);
         ModelTests.addTo(suite);
         if (!suite.report()) {
             System.exit(1);
