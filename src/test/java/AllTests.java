@@ -5,6 +5,7 @@ public final class AllTests {
     public static void main(String[] args) {
         watch();
         Suite suite = new Suite();
+        FaceTests.addTo(suite);
         LibraryTests.addTo(suite);
         SessionTests.addTo(suite);
         ActTests.addTo(suite);
