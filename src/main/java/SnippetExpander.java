@@ -680,7 +680,6 @@ public final class SnippetExpander {
         }
 
         void clear(int first) {
-            nameLength = 0;
             occurrences = 0;
             fieldSet = 0;
             firstItem = first;
@@ -694,9 +693,9 @@ public final class SnippetExpander {
         }
 
         void setName(int[] from, int start, int length) {
-            for (int i = 0; i < length && i < MAX_LETTERS; i++) {
+            nameLength = Math.min(length, MAX_LETTERS);
+            for (int i = 0; i < nameLength; i++) {
                 name[i] = from[start + i];
-                nameLength = i + 1;
             }
         }
 

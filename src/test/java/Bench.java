@@ -2,6 +2,8 @@ import java.nio.charset.StandardCharsets;
 
 /** An expander that is fed with texts. */
 final class Bench {
+    /** Longer than any text that can be; a wrong end of one must fail a test, not hold it up. */
+    private static final int MOST = 1000;
     final SnippetExpander x = new SnippetExpander();
 
     /** A bench whose library is this text. */
@@ -55,7 +57,7 @@ final class Bench {
 
     String text() {
         StringBuilder told = new StringBuilder();
-        for (int i = 0; x.text(i) != SnippetExpander.NONE; i++) {
+        for (int i = 0; i < MOST && x.text(i) != SnippetExpander.NONE; i++) {
             told.append((char) x.text(i));
         }
         return told.toString();
@@ -63,7 +65,7 @@ final class Bench {
 
     String value(int field) {
         StringBuilder told = new StringBuilder();
-        for (int i = 0; x.value(field, i) != SnippetExpander.NONE; i++) {
+        for (int i = 0; i < MOST && x.value(field, i) != SnippetExpander.NONE; i++) {
             told.append((char) x.value(field, i));
         }
         return told.toString();
@@ -79,7 +81,7 @@ final class Bench {
 
     String order() {
         StringBuilder told = new StringBuilder();
-        for (int i = 0; x.orderAt(i) != SnippetExpander.NONE; i++) {
+        for (int i = 0; i < MOST && x.orderAt(i) != SnippetExpander.NONE; i++) {
             told.append(x.orderAt(i));
         }
         return told.toString();

@@ -8,6 +8,7 @@ final class LibraryTests {
         suite.test("promise 2: append", LibraryTests::append);
         suite.test("promise 2: the buffer is full", LibraryTests::fullBuffer);
         suite.test("promise 3: load replaces everything", LibraryTests::loadReplaces);
+        suite.test("promise 3: load again and again", LibraryTests::loadAgain);
         suite.test("promise 3: a wrong text changes nothing", LibraryTests::wrongLoadKeeps);
         suite.test("promises 3 to 5: texts without error", LibraryTests::goodTexts);
         suite.test("promises 4, 5: error 1 outside of bodies", LibraryTests::wrongOutside);
@@ -80,6 +81,15 @@ final class LibraryTests {
         s.due("nothing is appended", 690, () -> x.size(4));
         s.due("10 bytes more", 700, () -> x.append(0x20202020, 0x20202020, 0, 0x20200000, 0));
         s.throwsState("a byte more", () -> x.append(0, 0, 0, 0, 1));
+        x.find();
+        b.put(" ".repeat(697));
+        s.throwsState("4 bytes by the first word", () -> x.append(0x20202020, 0, 0, 0, 0));
+        s.throwsState("4 bytes by the second word", () -> x.append(0, 0x20202020, 0, 0, 0));
+        s.throwsState("4 bytes by the third word", () -> x.append(0, 0, 0x20202020, 0, 0));
+        s.throwsState("4 bytes by the fourth word", () -> x.append(0, 0, 0, 0x20202020, 0));
+        s.throwsState("4 bytes by the fifth word", () -> x.append(0, 0, 0, 0, 0x20202020));
+        s.throwsState("4 bytes by all words", () -> x.append(1, 1, 0, 1, 1));
+        s.due("3 bytes more", 700, () -> x.append(0x200000, 0x20, 0, 0, 0x20000000));
         s.due("no byte more", 700, () -> x.append(0, 0, 0, 0, 0));
         s.due("load()", 0, x::load);
         s.due("the buffer is empty", 1, () -> x.append(0, 0, 0, 0, 1));
@@ -107,6 +117,24 @@ final class LibraryTests {
         s.due("third load()", 2, () -> b.load("snippet p{a}snippet q{$1}order places;"));
         s.due("its order", 1, () -> x.size(3));
         s.due("its expansion", 1, () -> b.expand("q"));
+    }
+
+    private static void loadAgain(Suite s) {
+        Bench b = new Bench();
+        String[] texts = {
+            "snippet a{" + "$1".repeat(59) + "${2:abcd}}snippet b{${3:x${4:y}}}", "order places;snippet a{${1:${2:b}}$3}", "snippet b{ab}",
+            "snippet a{$" + "x".repeat(5), "snippet a{" + "$1".repeat(58) + "${3:z${2:ab}}}snippet bb{${4:q${3:y}r}}",
+        };
+        String[] due = {"2 4 0 60", "1 1 0 3", "1 2 -1 0", "-1 2 -1 0", "2 3 0 60"};
+        for (int round = 0; round < 4; round++) {
+            for (int i = 0; i < texts.length; i++) {
+                String text = texts[i];
+                s.due("round " + round + ", load of " + text, due[i],
+                        () -> b.load(text) + " " + b.x.lengthOf(0) + " " + b.find("a") + " " + b.x.snippet(0, 1));
+            }
+            s.due("what depends on what", "0 4 0 8", () -> b.x.depends(0, 1) + " " + b.x.depends(0, 3) + " "
+                    + b.x.depends(1, 3) + " " + b.x.depends(1, 4));
+        }
     }
 
     private static String sizes(SnippetExpander x) {

@@ -37,6 +37,8 @@ final class ModelTests {
     }
 
     static void addTo(Suite suite) {
+        suite.test("each beginning of a text", ModelTests::beginnings);
+        suite.test("each byte of a text changed", ModelTests::changedBytes);
         suite.test("runs beside the model", s -> {
             Map<String, Integer> seen = new TreeMap<>();
             for (int run = 0; run < RUNS && !s.isTestFailed(); run++) {
@@ -51,6 +53,55 @@ final class ModelTests {
                 }
             }
         });
+    }
+
+    /** Also where the text fills the buffer, and behind a text that left its bytes there. */
+    private static void beginnings(Suite s) {
+        String[] texts = {
+            "order places;\nsnippet ab {x${1/u}$${2:y${3:}$}$4${5}}${0/n}} snippet c{}order numbers;",
+            "snippet abcdefgh{${1:${2:${3:${4:$5${6/r}}}}}}snippet places{${1/l}${2/f}}",
+        };
+        for (String text : texts) {
+            for (int length = 0; length <= text.length(); length++) {
+                String beginning = text.substring(0, length);
+                loadBoth(s, text, beginning);
+                loadBoth(s, text, " ".repeat(700 - length) + beginning);
+            }
+        }
+    }
+
+    private static void changedBytes(Suite s) {
+        String text = "order places;snippet a{x$1${2/u}$${3:y${4:}}$}}snippet b{${5:${6:${7:${8:$9}}}}}";
+        String bytes = "$}{:/019u;z \n\t~\u0080";
+        for (int at = 0; at < text.length(); at++) {
+            for (int k = 0; k < bytes.length(); k++) {
+                loadBoth(s, "", text.substring(0, at) + bytes.charAt(k) + text.substring(at + 1));
+                loadBoth(s, "", text.substring(0, at) + bytes.charAt(k) + text.substring(at));
+            }
+            loadBoth(s, "", text.substring(0, at) + text.substring(at + 1));
+        }
+    }
+
+    private static void loadBoth(Suite s, String before, String text) {
+        if (s.isTestFailed()) {
+            return;
+        }
+        Bench b = new Bench();
+        b.load(before);
+        Model m = new Model();
+        for (byte told : Bench.bytesOf(text)) {
+            m.append(told & 255, 0, 0, 0, 0);
+        }
+        s.due("load of " + text, Suite.told(m::load), () -> b.load(text));
+        s.due("its error", m.errorCode() + " " + m.errorPosition(), () -> b.x.errorCode() + " " + b.x.errorPosition());
+        s.due("its order", m.size(3), () -> b.x.size(3));
+        for (int i = 0; i < m.size(0); i++) {
+            int snippet = i;
+            for (int k = 0; k <= 5; k++) {
+                int what = k;
+                s.due("snippet(" + i + ", " + k + ")", m.snippet(i, k), () -> b.x.snippet(snippet, what));
+            }
+        }
     }
 
     private void run() {
