@@ -46,7 +46,6 @@ public final class SnippetExpander {
     private final int[] buffer = new int[MAX_BUFFER];
     private int bufferLength;
     private Library library;
-    private Library spareLibrary;
     private final LibraryReader reader;
     private int latestErrorCode;
     private int latestErrorPosition;
@@ -61,10 +60,9 @@ public final class SnippetExpander {
 
     public SnippetExpander() {
         library = new Library();
-        spareLibrary = new Library();
-        reader = new LibraryReader(buffer, spareLibrary);
+        reader = new LibraryReader();
         state = new State();
-        view = new View(library.snippets[0], state);
+        view = new View();
         for (int i = 0; i < MAX_UNDO; i++) {
             undoStates[i] = new State();
         }
@@ -90,22 +88,20 @@ public final class SnippetExpander {
     }
 
     public int load() {
-        reader.readLibrary(bufferLength, spareLibrary);
+        reader.readLibrary(buffer, bufferLength);
         bufferLength = 0;
         latestErrorCode = reader.errorCode;
         latestErrorPosition = reader.errorPosition;
         if (latestErrorCode != 0) {
             return NONE;
         }
-        Library read = spareLibrary;
-        spareLibrary = library;
-        library = read;
-        state.clear(read.isByPlaces);
+        library = reader.exchange(library);
+        state.clear(library.isByPlaces);
         undoCount = 0;
         for (int i = 0; i < SLOTS; i++) {
             isSaved[i] = false;
         }
-        return read.count;
+        return library.count;
     }
 
     public int errorCode() {
@@ -368,11 +364,12 @@ public final class SnippetExpander {
         if (rest > MAX_TYPED) {
             return refuse(TYPED_TOO_LONG);
         }
-        view.renderValues();
         if (textIfTyped(level, field, rest) > MAX_TEXT) {
             return refuse(TEXT_TOO_LONG);
         }
         keepForUndo();
+        lookAt(level);
+        view.renderValues();
         state.makeNotTyped(level, field);
         state.typeBehind(level, field, view.values, field * MAX_TEXT, rest);
         return rest;
@@ -576,7 +573,7 @@ public final class SnippetExpander {
     }
 
     private void takeSession(int level) {
-        view.take(library.snippets[state.snippets[level]], level);
+        view.take(library.snippets[state.snippets[level]], state, level);
     }
 
     private void lookAt(int level) {
@@ -824,7 +821,7 @@ public final class SnippetExpander {
 
     /** Reads a library text up to the first token that is wrong. */
     private static final class LibraryReader {
-        private final int[] text;
+        private int[] text = new int[0];
         private int length;
         private int at;
         private Library into;
@@ -833,15 +830,21 @@ public final class SnippetExpander {
         int errorCode;
         int errorPosition;
 
-        LibraryReader(int[] text, Library into) {
-            this.text = text;
-            this.into = into;
-            this.snippet = into.snippets[0];
+        LibraryReader() {
+            into = new Library();
+            snippet = into.snippets[0];
         }
 
-        void readLibrary(int textLength, Library target) {
-            length = textLength;
-            into = target;
+        /** Gives what was read last for a library whose rows may be written over. */
+        Library exchange(Library old) {
+            Library read = into;
+            into = old;
+            return read;
+        }
+
+        void readLibrary(int[] from, int fromLength) {
+            text = from;
+            length = Math.min(fromLength, from.length);
             into.count = 0;
             into.isByPlaces = false;
             at = 0;
@@ -1151,8 +1154,6 @@ public final class SnippetExpander {
     /** What a session shows and tells, as it is or as it would be. */
     private static final class View {
         Snippet snippet;
-        final State state;
-        int level;
         int typedSet;
         final int[] typedLengths = new int[FIELDS];
         int live;
@@ -1164,26 +1165,27 @@ public final class SnippetExpander {
         long textLength;
         final int[] order = new int[FIELDS];
         int orderLength;
+        // A row of MAX_TEXT bytes a field.
         final int[] values = new int[FIELDS * MAX_TEXT];
         final int[] text = new int[MAX_TEXT];
 
-        View(Snippet snippet, State state) {
-            this.snippet = snippet;
-            this.state = state;
+        View() {
+            snippet = new Snippet(new int[0], new int[0]);
         }
 
-        void take(Snippet taken, int takenLevel) {
+        void take(Snippet taken, State state, int level) {
             snippet = taken;
-            level = takenLevel;
-            typedSet = state.typedSets[takenLevel];
+            typedSet = state.typedSets[level];
             for (int field = 0; field < FIELDS; field++) {
-                typedLengths[field] = state.typedLength(takenLevel, field);
+                int length = state.typedLength(level, field);
+                int from = (level * FIELDS + field) * MAX_TYPED;
+                typedLengths[field] = length;
+                System.arraycopy(state.typedTexts, from, values, field * MAX_TEXT, length);
             }
         }
 
         void takeUntouched(Snippet taken) {
             snippet = taken;
-            level = 0;
             typedSet = 0;
         }
 
@@ -1403,17 +1405,16 @@ public final class SnippetExpander {
                     ? values[field * MAX_TEXT + index] : NONE;
         }
 
-        /** For a session as it is: its values stand whole in its TEXT, or are typed, so each fits its row. */
+        /**
+         * For a session as it is: what is typed stands in its row since take(), and each other value
+         * stands whole in the TEXT, so it fits its row.
+         */
         void renderValues() {
             for (int count = 0; count < FIELDS; count++) {
                 for (int field = 0; field < FIELDS; field++) {
                     boolean isDue = Integer.bitCount(snippet.dependsOn[field]) == count;
-                    int row = field * MAX_TEXT;
-                    int typedRow = (level * FIELDS + field) * MAX_TYPED;
-                    if (isDue && isTyped(field)) {
-                        System.arraycopy(state.typedTexts, typedRow, values, row, typedLengths[field]);
-                    } else if (isDue && shownDefaults[field] != NONE) {
-                        renderPart(shownDefaults[field], values, row);
+                    if (isDue && shownDefaults[field] != NONE) {
+                        renderPart(shownDefaults[field], values, field * MAX_TEXT);
                     }
                 }
             }
