@@ -110,7 +110,9 @@ final class ModelTests {
         }
         int eager = random.nextInt(4);
         while (calls < CALLS && !suite.isTestFailed()) {
-            if (random.nextInt(3) != 0) {
+            if (isStuck() && random.nextInt(4) == 0) {
+                load();
+            } else if (random.nextInt(3) != 0) {
                 act(eager);
             } else if (random.nextInt(25) == 0) {
                 load();
@@ -120,6 +122,12 @@ final class ModelTests {
                 ask();
             }
         }
+    }
+
+    /** Whether there is little left to do: nothing that can be expanded. */
+    private boolean isStuck() {
+        boolean isRefused = latest.equals("-3") || latest.equals("-9") || latest.startsWith("throws");
+        return m.size(0) == 0 || m.size(1) == 0 && isRefused;
     }
 
     private boolean compare(String name, String call, Suite.Call got, Suite.Call want) {
@@ -247,7 +255,7 @@ final class ModelTests {
                 compare("previous", "previous()", x::previous, m::previous);
                 break;
             case 18: case 19:
-                a = near(10);
+                a = nearField();
                 compare("go", "go(" + a + ")", () -> x.go(a), () -> m.go(a));
                 break;
             case 20:
@@ -335,8 +343,18 @@ final class ModelTests {
         }
     }
 
-    private void askOfSession(int kind) {
+    /** A field, mostly one that occurs in the innermost session. */
+    private int nearField() {
         int field = near(10);
+        int set = m.size(1) == 0 ? 0 : m.snippet(m.session(m.size(1) - 1, 0), 2);
+        for (int tries = 0; tries < 5 && field >= 0 && field < 10 && (set >> field & 1) == 0; tries++) {
+            field = near(10);
+        }
+        return field;
+    }
+
+    private void askOfSession(int kind) {
+        int field = nearField();
         boolean isOpen = m.size(1) > 0;
         int length = isOpen ? m.session(m.size(1) - 1, 3) : 3;
         int index = near(kind < 12 ? Math.min(length, 6) : length);

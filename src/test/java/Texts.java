@@ -85,7 +85,7 @@ final class Texts {
     }
 
     private void parts(int nesting, int rank) {
-        int count = random.nextInt(nesting == 0 ? 12 : 4);
+        int count = random.nextInt(nesting == 0 ? 12 : 5);
         for (int k = 0; k < count && out.length() < end; k++) {
             if (random.nextInt(3) == 0 || fieldsUsed == 0) {
                 literals(1 + random.nextInt(random.nextInt(12) == 0 ? 50 : 4));
@@ -102,7 +102,7 @@ final class Texts {
         occurrences++;
         int place = isCareful ? rank + random.nextInt(fieldsUsed - rank) : random.nextInt(10);
         int field = ranks.get(place);
-        int form = random.nextInt(8);
+        int form = random.nextInt(10);
         if (form == 0) {
             out.append('$').append(field);
         } else if (form == 1) {
