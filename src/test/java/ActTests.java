@@ -23,12 +23,6 @@ final class ActTests {
         suite.test("the example of README.md", ActTests::example);
     }
 
-    private static Bench open(String library) {
-        Bench b = Bench.with(library);
-        b.x.expand(0);
-        return b;
-    }
-
     private static void expand(Suite s) {
         Bench b = Bench.with("snippet a{<${2:two}$1>}snippet b{$0$5}snippet c{${0:x}}");
         SnippetExpander x = b.x;
@@ -124,7 +118,7 @@ final class ActTests {
     }
 
     private static void type(Suite s) {
-        Bench b = open("snippet a{[${1:abc}]$1$2}");
+        Bench b = Bench.open("snippet a{[${1:abc}]$1$2}");
         SnippetExpander x = b.x;
         b.put("hello");
         s.due("type(2)", 2, () -> x.type(2));
@@ -146,7 +140,7 @@ final class ActTests {
         s.due("the buffer stays", 3, () -> x.size(4));
         s.due("no refusal", "0 6", () -> x.account(4) + " " + x.account(0));
         s.due("all of it", 24, () -> x.type(3));
-        Bench braces = open("snippet a{$1}");
+        Bench braces = Bench.open("snippet a{$1}");
         braces.type("$1}${2:x}");
         s.due("what is typed is told as it is", "$1}${2:x}", braces::text);
     }
@@ -176,15 +170,15 @@ final class ActTests {
         x.expand(2);
         s.due("401 bytes", -3, () -> b.type("x".repeat(11)));
         s.due("400 bytes", 10, () -> b.type("x".repeat(10)));
-        Bench order = open("snippet a{" + "$1".repeat(20) + "}");
+        Bench order = Bench.open("snippet a{" + "$1".repeat(20) + "}");
         order.type("x".repeat(20));
         s.due("400 bytes", "20 400", () -> order.x.field(1, 5) + " " + order.x.session(0, 3));
         s.due("3", -3, () -> order.type("x".repeat(20)));
-        Bench typed = open("snippet a{$1${1/f}${1/n}}");
+        Bench typed = Bench.open("snippet a{$1${1/f}${1/n}}");
         typed.type("x".repeat(20));
         typed.type("x".repeat(20));
         s.due("4 of a full field", -4, () -> typed.type("x"));
-        Bench both = open("snippet a{" + "$1".repeat(11) + "}");
+        Bench both = Bench.open("snippet a{" + "$1".repeat(11) + "}");
         both.type("x".repeat(20));
         both.type("x".repeat(16));
         s.due("4 comes ahead of 3", "396 -4 0 1", () -> both.x.session(0, 3) + " " + both.type("x".repeat(20)) + " "
@@ -194,7 +188,7 @@ final class ActTests {
     }
 
     private static void erase(Suite s) {
-        Bench b = open("snippet a{${1:ab${2:c}}${2:de}}");
+        Bench b = Bench.open("snippet a{${1:ab${2:c}}${2:de}}");
         SnippetExpander x = b.x;
         s.due("of a default", 2, x::erase);
         s.due("the rest is typed", "ab 1 abde", () -> b.value(1) + " " + x.field(1, 1) + " " + b.text());
@@ -206,10 +200,10 @@ final class ActTests {
         s.due("acts", "4 1", () -> x.account(0) + " " + x.account(5));
         b.type("xy");
         s.due("behind it", "xyde", b::text);
-        Bench changed = open("snippet a{${1:<${2/u}${2/n}>}${2:ab}}");
+        Bench changed = Bench.open("snippet a{${1:<${2/u}${2/n}>}${2:ab}}");
         s.due("with changes in it", 4, changed.x::erase);
         s.due("text", "<AB2ab", changed::text);
-        Bench full = open("snippet a{${1:" + "x".repeat(41) + "}}");
+        Bench full = Bench.open("snippet a{${1:" + "x".repeat(41) + "}}");
         s.due("40 are left", "40 40", () -> full.x.erase() + " " + full.x.session(0, 3));
     }
 
@@ -223,18 +217,18 @@ final class ActTests {
         x.expand(1);
         s.due("41 would be left", "-4 1 0", () -> x.erase() + " " + x.account(4) + " " + x.field(1, 1));
         String late = "snippet a{${1:${2:aa}}${2:" + "b".repeat(398) + "}x}";
-        Bench exact = open(late.replace("}x}", "}}").replace("aa", "aaa"));
+        Bench exact = Bench.open(late.replace("}x}", "}}").replace("aa", "aaa"));
         s.due("400 bytes then", "2 400", () -> exact.x.erase() + " " + exact.x.session(0, 3));
-        Bench over = open(late.replace("aa", "aaa").replace("}x}", "}xx}").replace("b".repeat(398), "b".repeat(397)));
+        Bench over = Bench.open(late.replace("aa", "aaa").replace("}x}", "}xx}").replace("b".repeat(398), "b".repeat(397)));
         s.due("401 bytes then", "-3 1 0", () -> over.x.erase() + " " + over.x.account(3) + " " + over.x.field(1, 1));
-        Bench both = open("snippet a{${1:${2:" + "a".repeat(42) + "}}${2:" + "b".repeat(310) + "}" + "c".repeat(100) + "}");
+        Bench both = Bench.open("snippet a{${1:${2:" + "a".repeat(42) + "}}${2:" + "b".repeat(310) + "}" + "c".repeat(100) + "}");
         s.due("4 comes ahead of 3", "-4 0 1", () -> both.x.erase() + " " + both.x.account(3) + " " + both.x.account(4));
-        Bench five = open("snippet a{${1:${2:}}${2:" + "b".repeat(401) + "}}");
+        Bench five = Bench.open("snippet a{${1:${2:}}${2:" + "b".repeat(401) + "}}");
         s.due("5 comes ahead of 3", "-5 0", () -> five.x.erase() + " " + five.x.account(3));
     }
 
     private static void reset(Suite s) {
-        Bench b = open("snippet a{${1:ab${2:c}}$3}");
+        Bench b = Bench.open("snippet a{${1:ab${2:c}}$3}");
         SnippetExpander x = b.x;
         s.due("not typed", "-6 1", () -> x.reset() + " " + x.account(6));
         b.type("x");
@@ -251,10 +245,10 @@ final class ActTests {
         x.drop();
         s.due("without session", "-1 1", () -> x.reset() + " " + x.account(1));
         String text = "snippet a{${1:" + "x".repeat(100) + "}" + "$1".repeat(3) + "$2}";
-        Bench exact = open(text);
+        Bench exact = Bench.open(text);
         exact.type("y");
         s.due("400 bytes then", "100 400", () -> exact.x.reset() + " " + exact.x.session(0, 3));
-        Bench over = open(text);
+        Bench over = Bench.open(text);
         over.type("y");
         over.x.go(2);
         over.type("z");
@@ -322,7 +316,7 @@ final class ActTests {
     }
 
     private static void previous(Suite s) {
-        Bench b = open("snippet a{$3${1:$2}$0}");
+        Bench b = Bench.open("snippet a{$3${1:$2}$0}");
         SnippetExpander x = b.x;
         s.due("none ahead", "-7 1 1", () -> x.previous() + " " + x.account(7) + " " + x.session(0, 1));
         x.go(0);
@@ -343,7 +337,7 @@ final class ActTests {
     }
 
     private static void go(Suite s) {
-        Bench b = open("snippet a{${1:$2}$9$0}");
+        Bench b = Bench.open("snippet a{${1:$2}$9$0}");
         SnippetExpander x = b.x;
         s.due("to 9", "1 9", () -> x.go(9) + " " + x.session(0, 1));
         s.due("to 9 again", 9, () -> x.go(9));

@@ -10,6 +10,14 @@ public final class AllTests {
         SessionTests.addTo(suite);
         ActTests.addTo(suite);
         UndoTests.addTo(suite);
+        Edges edges = new Edges(suite);
+        TextEdges.addTo(edges);
+        LibraryEdges.addTo(edges);
+        FieldEdges.addTo(edges);
+        QuestionEdges.addTo(edges);
+        ActEdges.addTo(edges);
+        UndoEdges.addTo(edges);
+        edges.checkParts();
         ModelTests.addTo(suite);
         if (!suite.report()) {
             System.exit(1);

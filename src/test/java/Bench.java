@@ -16,6 +16,13 @@ final class Bench {
         return bench;
     }
 
+    /** A bench whose library is this text, and in which its first snippet is expanded. */
+    static Bench open(String library) {
+        Bench bench = with(library);
+        bench.x.expand(0);
+        return bench;
+    }
+
     static byte[] bytesOf(String text) {
         return text.getBytes(StandardCharsets.ISO_8859_1);
     }

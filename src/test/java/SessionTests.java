@@ -29,12 +29,6 @@ final class SessionTests {
         suite.test("exceptions in their order", SessionTests::exceptions);
     }
 
-    private static Bench open(String library) {
-        Bench b = Bench.with(library);
-        b.x.expand(0);
-        return b;
-    }
-
     private static String fields(Bench b, int what) {
         StringBuilder told = new StringBuilder();
         for (int f = 0; f < 10; f++) {
@@ -80,7 +74,7 @@ final class SessionTests {
     }
 
     private static void account(Suite s) {
-        Bench b = open("snippet a{$1}");
+        Bench b = Bench.open("snippet a{$1}");
         SnippetExpander x = b.x;
         s.due("one act", 1, () -> x.account(0));
         x.undo();
@@ -99,7 +93,7 @@ final class SessionTests {
     }
 
     private static void field(Suite s) {
-        Bench b = open(NESTED);
+        Bench b = Bench.open(NESTED);
         SnippetExpander x = b.x;
         s.due("live", "1 1 1 1 0 0 0 0 0 0", () -> fields(b, 0));
         s.due("typed", "0 0 0 0 0 0 0 0 0 0", () -> fields(b, 1));
@@ -119,7 +113,7 @@ final class SessionTests {
     }
 
     private static void yieldingFields(Suite s) {
-        Bench b = open(NESTED);
+        Bench b = Bench.open(NESTED);
         s.due("text", "<abc|bc|c||ABC>", b::text);
         b.type("T");
         s.due("text without the default of 1", "<T|dee|ee||T>", b::text);
@@ -139,7 +133,7 @@ final class SessionTests {
     }
 
     private static void value(Suite s) {
-        Bench b = open("snippet a{${1:ab${2:c\u007e}}${3/u}$9}");
+        Bench b = Bench.open("snippet a{${1:ab${2:c\u007e}}${3/u}$9}");
         SnippetExpander x = b.x;
         s.due("of 1", "abc~", () -> b.value(1));
         s.due("of 2", "c~", () -> b.value(2));
@@ -166,7 +160,7 @@ final class SessionTests {
     }
 
     private static void occurrence(Suite s) {
-        Bench b = open("snippet a{x${1:a$2${3:zz}}${2/u}${3/l}${2/r}${1/f}${1/n}${3:yyyy}$1}");
+        Bench b = Bench.open("snippet a{x${1:a$2${3:zz}}${2/u}${3/l}${2/r}${1/f}${1/n}${3:yyyy}$1}");
         SnippetExpander x = b.x;
         s.due("fields", "1 2 3 2 3 2 1 1 3 1", () -> occurrences(b, 0));
         s.due("changes", "0 0 0 1 2 3 4 5 0 0", () -> occurrences(b, 1));
@@ -189,7 +183,7 @@ final class SessionTests {
         x.drop();
         s.throwsState("occurrence(0, 0)", () -> x.occurrence(0, 0));
         s.throwsState("occurrence(-1, 8) without session", () -> x.occurrence(-1, 8));
-        Bench full = open("snippet a{" + "$1".repeat(60) + "}");
+        Bench full = Bench.open("snippet a{" + "$1".repeat(60) + "}");
         full.type("ab");
         s.due("the 60th", 118, () -> full.x.occurrence(59, 7));
         s.throwsIndex("a 61st", () -> full.x.occurrence(60, 0));
@@ -199,21 +193,21 @@ final class SessionTests {
     }
 
     private static void starts(Suite s) {
-        Bench b = open("snippet a{ab${1:c$5${2:d${3:e${4:f$5g$6}h$6}i$6}j$6}k$6}");
+        Bench b = Bench.open("snippet a{ab${1:c$5${2:d${3:e${4:f$5g$6}h$6}i$6}j$6}k$6}");
         b.x.go(5);
         b.type("55");
         b.x.go(6);
         b.type("666");
         s.due("text", "abc55def55g666h666i666j666k666", b::text);
         s.due("starts", "2 3 5 6 7 8 11 15 19 23 27", () -> occurrences(b, 7));
-        Bench other = open("snippet a{${1/n}${2:x$1${1/r}}$2${2:y${1}}}");
+        Bench other = Bench.open("snippet a{${1/n}${2:x$1${1/r}}$2${2:y${1}}}");
         other.type("abc");
         s.due("other text", "3xabccbaxabccbaxabccba", other::text);
         s.due("other starts", "0 1 2 5 8 15 -1", () -> occurrences(other, 7));
     }
 
     private static void text(Suite s) {
-        Bench b = open("snippet a{a$1~$0\n}");
+        Bench b = Bench.open("snippet a{a$1~$0\n}");
         SnippetExpander x = b.x;
         b.type("\u00ff\u0001");
         s.due("text", "a\u00ff\u0001~\n", b::text);
@@ -224,29 +218,29 @@ final class SessionTests {
         s.due("text(least)", NONE, () -> x.text(Integer.MIN_VALUE));
         x.drop();
         s.throwsState("text(0)", () -> x.text(0));
-        Bench full = open("snippet a{$1" + "x".repeat(399) + "}");
+        Bench full = Bench.open("snippet a{$1" + "x".repeat(399) + "}");
         full.type("y");
         s.due("400 bytes", "121 120 -1", () -> full.x.text(0) + " " + full.x.text(399) + " " + full.x.text(400));
     }
 
     private static void changes(Suite s) {
-        Bench b = open("snippet a{${1/u}|${1/l}|${1/r}|${1/f}|${1/n}|$1|${1:d}}");
+        Bench b = Bench.open("snippet a{${1/u}|${1/l}|${1/r}|${1/f}|${1/n}|$1|${1:d}}");
         s.due("of the default", "D|d|d|d|1|d|d", b::text);
         b.x.reset();
         b.type("az{`AZ@[");
         s.due("of letters and their neighbours", "AZ{`AZ@[|az{`az@[|[@ZA`{za|a|8|az{`AZ@[|az{`AZ@[", b::text);
-        Bench empty = open("snippet a{${1/u}|${1/l}|${1/r}|${1/f}|${1/n}|$1}");
+        Bench empty = Bench.open("snippet a{${1/u}|${1/l}|${1/r}|${1/f}|${1/n}|$1}");
         s.due("of an empty value", "||||0|", empty::text);
         s.due("their lengths", "0 0 0 0 1 0", () -> occurrences(empty, 6));
-        Bench high = open("snippet a{${1/u}${1/l}${1/r}${1/f}}");
+        Bench high = Bench.open("snippet a{${1/u}${1/l}${1/r}${1/f}}");
         high.type("\u00e9\u00c9");
         s.due("of high bytes", "\u00e9\u00c9\u00e9\u00c9\u00c9\u00e9\u00e9", high::text);
-        Bench inside = open("snippet a{${1:<${2/u}${3/r}${2/n}>}${1/r}${2:ab}${3:cd}}");
+        Bench inside = Bench.open("snippet a{${1:<${2/u}${3/r}${2/n}>}${1/r}${2:ab}${3:cd}}");
         s.due("inside of a default", "<ABdc2>>2cdBA<abcd", inside::text);
     }
 
     private static void numbers(Suite s) {
-        Bench b = open("snippet a{${1/n}}");
+        Bench b = Bench.open("snippet a{${1/n}}");
         b.type("123456789");
         s.due("9", "9", b::text);
         b.type("0");
@@ -257,16 +251,16 @@ final class SessionTests {
         s.due("31", "31", b::text);
         int[] lengths = {99, 100, 101, 109, 110, 123, 390};
         for (int length : lengths) {
-            Bench c = open("snippet a{${1:" + "x".repeat(length) + "}${1/n}}");
+            Bench c = Bench.open("snippet a{${1:" + "x".repeat(length) + "}${1/n}}");
             s.due("number " + length, String.valueOf(length), () -> c.text().substring(length));
             s.due("its length " + length, length < 100 ? 2 : 3, () -> c.x.occurrence(1, 6));
         }
-        Bench twice = open("snippet a{${1:${2/n}${2/n}}${1/n}${2:0123456789}}");
+        Bench twice = Bench.open("snippet a{${1:${2/n}${2/n}}${1/n}${2:0123456789}}");
         s.due("the number of a number", "101040123456789", twice::text);
     }
 
     private static void shown(Suite s) {
-        Bench b = open("snippet a{${1:A${2:B}}${2:C${3:D}}${1:E${4:F}}$3$4}");
+        Bench b = Bench.open("snippet a{${1:A${2:B}}${2:C${3:D}}${1:E${4:F}}$3$4}");
         s.due("the first defaults", "ABBAB", b::text);
         s.due("live", "0 1 1 1 1 0 0 0 0 0", () -> fields(b, 0));
         s.due("shown", "1 1 1 0 1 0 1 1", () -> occurrences(b, 4));
@@ -277,17 +271,17 @@ final class SessionTests {
         b.type("u");
         s.due("2 is typed", "AuuAu", b::text);
         s.due("a default in the middle", "x-x", () -> {
-            Bench c = open("snippet a{$1-${1:x}}");
+            Bench c = Bench.open("snippet a{$1-${1:x}}");
             return c.text();
         });
         s.due("a default that is not shown shows none", "", () -> {
-            Bench c = open("snippet a{${1:}${1:${2:x}}$2}");
+            Bench c = Bench.open("snippet a{${1:}${1:${2:x}}$2}");
             return c.text();
         });
     }
 
     private static void typedStays(Suite s) {
-        Bench b = open("snippet a{${1:-$2-}}");
+        Bench b = Bench.open("snippet a{${1:-$2-}}");
         b.x.go(2);
         b.type("kept");
         s.due("text", "-kept-", b::text);
@@ -300,7 +294,7 @@ final class SessionTests {
     }
 
     private static void orderAt(Suite s) {
-        Bench b = open("snippet a{$3$0${2:$7}$1$9$0$2}");
+        Bench b = Bench.open("snippet a{$3$0${2:$7}$1$9$0$2}");
         SnippetExpander x = b.x;
         s.due("numbers", "123790", b::order);
         x.setOrder(true);
@@ -313,34 +307,34 @@ final class SessionTests {
         x.drop();
         s.throwsState("orderAt(0)", () -> x.orderAt(0));
         s.throwsState("orderAt(-1)", () -> x.orderAt(-1));
-        Bench hidden = open("order places;snippet a{${1:a}${1:$3}$4$2$3}");
+        Bench hidden = Bench.open("order places;snippet a{${1:a}${1:$3}$4$2$3}");
         s.due("the first shown one counts", "1423", hidden::order);
-        Bench all = open("snippet a{$9$8$7$6$5$4$3$2$1$0}");
+        Bench all = Bench.open("snippet a{$9$8$7$6$5$4$3$2$1$0}");
         s.due("all by numbers", "1234567890", all::order);
         all.x.setOrder(true);
         s.due("all by places", "9876543210", all::order);
         s.due("the places of fields", "9 8 0", () -> all.x.field(0, 4) + " " + all.x.field(1, 4) + " " + all.x.field(9, 4));
-        Bench last = open("order places;snippet a{$0$1}");
+        Bench last = Bench.open("order places;snippet a{$0$1}");
         s.due("0 is the last one", "10", last::order);
-        Bench alone = open("snippet a{$0}");
+        Bench alone = Bench.open("snippet a{$0}");
         s.due("0 alone", "0", alone::order);
     }
 
     private static void why(Suite s) {
-        Bench b = open("snippet a{${1:$2${3:$4}}${1:$5${6:$7}}}");
+        Bench b = Bench.open("snippet a{${1:$2${3:$4}}${1:$5${6:$7}}}");
         SnippetExpander x = b.x;
         s.due("at first", "1 0 0 0 0 3 3 4 1 1", () -> whys(x));
         b.type("t");
         s.due("1 is typed", "1 0 2 2 4 2 2 4 1 1", () -> whys(x));
-        Bench two = open("snippet a{${1:$2}${3:a}${3:$2}}");
+        Bench two = Bench.open("snippet a{${1:$2}${3:a}${3:$2}}");
         two.type("t");
         s.due("2 comes ahead of 3", 2, () -> two.x.why(2));
-        Bench late = open("snippet a{${3:a}${3:$2}${1:$2}}");
+        Bench late = Bench.open("snippet a{${3:a}${3:$2}${1:$2}}");
         late.type("t");
         s.due("also behind it", 2, () -> late.x.why(2));
-        Bench yield = open("snippet a{${4:a}${4:$5${6:$2}}${3:a}${3:$2}}");
+        Bench yield = Bench.open("snippet a{${4:a}${4:$5${6:$2}}${3:a}${3:$2}}");
         s.due("3 comes ahead of 4", 3, () -> yield.x.why(2));
-        Bench hidden = open("snippet a{${1:${2:$3}}$2}");
+        Bench hidden = Bench.open("snippet a{${1:${2:$3}}$2}");
         hidden.x.go(2);
         hidden.type("u");
         hidden.x.go(1);
@@ -362,30 +356,30 @@ final class SessionTests {
     }
 
     private static void yielded(Suite s) {
-        Bench b = open("snippet a{${1:a${3:b}}${1:c}${2:d}${3:e${1/u}}${1:f}}".replace("e${1/u}", "e"));
+        Bench b = Bench.open("snippet a{${1:a${3:b}}${1:c}${2:d}${3:e${1/u}}${1:f}}".replace("e${1/u}", "e"));
         s.due("two of 1 and one of 3", 3, b.x::yielded);
         b.type("t");
         s.due("three of 1", 3, b.x::yielded);
         b.x.go(2);
         b.type("t");
         s.due("and one of 2", 4, b.x::yielded);
-        s.due("none", 0, () -> open("snippet a{$1${2:x}}").x.yielded());
+        s.due("none", 0, () -> Bench.open("snippet a{$1${2:x}}").x.yielded());
         b.x.drop();
         s.throwsState("yielded()", b.x::yielded);
     }
 
     private static void mirrored(Suite s) {
-        Bench b = open("snippet a{${1:$2}${1:$3}$3$2$4$4$4$0}");
+        Bench b = Bench.open("snippet a{${1:$2}${1:$3}$3$2$4$4$4$0}");
         s.due("1, 2 and 4", 3, b.x::mirrored);
         b.type("t");
         s.due("1 and 4", 2, b.x::mirrored);
-        s.due("none", 0, () -> open("snippet a{$1$2}").x.mirrored());
+        s.due("none", 0, () -> Bench.open("snippet a{$1$2}").x.mirrored());
         b.x.drop();
         s.throwsState("mirrored()", b.x::mirrored);
     }
 
     private static void longest(Suite s) {
-        Bench b = open("snippet a{$4${3:ab}$2${5:cd}$9}");
+        Bench b = Bench.open("snippet a{$4${3:ab}$2${5:cd}$9}");
         s.due("3", 3, b.x::longest);
         b.x.go(5);
         b.type("xyz");
@@ -393,16 +387,16 @@ final class SessionTests {
         b.x.go(3);
         b.type("xyz");
         s.due("3 of two", 3, b.x::longest);
-        s.due("the lowest one of empty ones", 2, () -> open("snippet a{$4$2$3}").x.longest());
-        s.due("0 is the lowest one", 0, () -> open("snippet a{$4$2$0}").x.longest());
-        Bench hidden = open("snippet a{${1:$2}$3}");
+        s.due("the lowest one of empty ones", 2, () -> Bench.open("snippet a{$4$2$3}").x.longest());
+        s.due("0 is the lowest one", 0, () -> Bench.open("snippet a{$4$2$0}").x.longest());
+        Bench hidden = Bench.open("snippet a{${1:$2}$3}");
         hidden.x.go(2);
         hidden.type("long");
         hidden.x.go(1);
         hidden.type("t");
         s.due("2 is not live", 1, hidden.x::longest);
         s.due("not by the bytes that are told", 2, () -> {
-            Bench c = open("snippet a{${1:x}$1$1$1$1${2:yy}}");
+            Bench c = Bench.open("snippet a{${1:x}$1$1$1$1${2:yy}}");
             return c.x.longest();
         });
         b.x.drop();
@@ -410,7 +404,7 @@ final class SessionTests {
     }
 
     private static void untouched(Suite s) {
-        Bench b = open("snippet a{$1${2:$3}$0}");
+        Bench b = Bench.open("snippet a{$1${2:$3}$0}");
         s.due("all", 1.0f, b.x::untouched);
         b.type("x");
         s.due("3 of 4", 0.75f, b.x::untouched);
@@ -428,7 +422,7 @@ final class SessionTests {
     }
 
     private static void meanLength(Suite s) {
-        Bench b = open("snippet a{$1${2:ab$3}$3}");
+        Bench b = Bench.open("snippet a{$1${2:ab$3}$3}");
         s.due("2 of 3", 2.0 / 3.0, b.x::meanLength);
         b.x.go(3);
         b.type("xyz");
@@ -436,7 +430,7 @@ final class SessionTests {
         b.x.go(1);
         b.type("0123456789");
         s.due("18 of 3", 6.0, b.x::meanLength);
-        Bench hidden = open("snippet a{${1:$2}$3}");
+        Bench hidden = Bench.open("snippet a{${1:$2}$3}");
         hidden.x.go(2);
         hidden.type("long");
         hidden.x.go(1);
@@ -447,7 +441,7 @@ final class SessionTests {
     }
 
     private static void lengthIf(Suite s) {
-        Bench b = open("snippet a{${1:abcde$2}$1${1/n}$2" + "x".repeat(300) + "}");
+        Bench b = Bench.open("snippet a{${1:abcde$2}$1${1/n}$2" + "x".repeat(300) + "}");
         SnippetExpander x = b.x;
         s.due("now", 311, () -> x.session(0, 3));
         s.due("one", 303, () -> x.lengthIf(1));
@@ -461,10 +455,10 @@ final class SessionTests {
         s.due("41", NONE, () -> x.lengthIf(20));
         s.due("40 of 41", 382, () -> x.lengthIf(19));
         s.due("no refusals, three acts", "0 0 3", () -> x.account(4) + " " + x.account(3) + " " + x.size(5));
-        Bench wide = open("snippet a{" + "$1".repeat(40) + "}");
+        Bench wide = Bench.open("snippet a{" + "$1".repeat(40) + "}");
         s.due("400", 400, () -> wide.x.lengthIf(10));
         s.due("440", NONE, () -> wide.x.lengthIf(11));
-        Bench one = open("snippet a{$1" + "x".repeat(390) + "}");
+        Bench one = Bench.open("snippet a{$1" + "x".repeat(390) + "}");
         s.due("400 by one", 400, () -> one.x.lengthIf(10));
         s.due("401", NONE, () -> one.x.lengthIf(11));
         s.throwsArgument("lengthIf(0)", () -> x.lengthIf(0));
@@ -478,7 +472,7 @@ final class SessionTests {
     }
 
     private static void wouldHide(Suite s) {
-        Bench b = open("snippet a{${1:$2${3:$4$5}}${3:$5$6}$2$0${0:$9$8}}");
+        Bench b = Bench.open("snippet a{${1:$2${3:$4$5}}${3:$5$6}$2$0${0:$9$8}}");
         SnippetExpander x = b.x;
         s.due("of 1", 1 << 4, () -> x.wouldHide(1));
         s.due("of 2", 0, () -> x.wouldHide(2));
@@ -495,7 +489,7 @@ final class SessionTests {
         x.drop();
         s.throwsState("wouldHide(0)", () -> x.wouldHide(0));
         s.throwsIndex("wouldHide(10) without session", () -> x.wouldHide(10));
-        Bench other = open("snippet a{${1:${2:a}}${2:${3:b}}${3:${4:c}}}");
+        Bench other = Bench.open("snippet a{${1:${2:a}}${2:${3:b}}${3:${4:c}}}");
         s.due("what gets hidden far behind", 1 << 4, () -> {
             other.x.go(1);
             return other.x.wouldHide(1);
@@ -503,7 +497,7 @@ final class SessionTests {
     }
 
     private static void exceptions(Suite s) {
-        Bench b = open("snippet a{$1}");
+        Bench b = Bench.open("snippet a{$1}");
         SnippetExpander x = b.x;
         s.throwsIndex("snippet(1, 6)", () -> x.snippet(1, 6));
         s.throwsIndex("session(1, 5)", () -> x.session(1, 5));
