@@ -5,6 +5,7 @@ final class ActEdges {
 
     static void addTo(Edges e) {
         sessions(e);
+        innermost(e);
         ends(e);
         expand(e);
         expandRefused(e);
@@ -60,6 +61,33 @@ final class ActEdges {
             s.due("9 alone", 9, () -> Bench.open("snippet a{$9}").x.session(0, 1));
             s.due("1 is not live", 2, () -> Bench.open("snippet a{${2:}${2:$1}}").x.session(0, 1));
             s.due("1 is not live by places", 2, () -> Bench.open("order places;snippet a{${2:}${2:$1}}").x.session(0, 1));
+        });
+    }
+
+    private static void innermost(Edges e) {
+        e.test("What is said of the session, of fields and of occurrences means the innermost session.", s -> {
+            Still.Run run = b -> {
+                b.load("snippet a{aa$9$8${1:$7}}snippet b{b${2:d${4:zz}$4}$3}snippet c{${5:c}$6$5}");
+                b.x.expand(0);
+                b.type("out");
+                b.x.expand(1);
+                b.x.go(4);
+                b.type("in");
+            };
+            Still.Question[] acts = {
+                SnippetExpander::erase, SnippetExpander::reset, SnippetExpander::next, SnippetExpander::previous, y -> y.go(2), y -> y.go(5),
+                SnippetExpander::finish, SnippetExpander::drop, y -> y.expand(2), SnippetExpander::undo, y -> y.lengthIf(3), y -> y.wouldHide(2),
+            };
+            Still.Question[] others = {y -> y.session(0, 3), y -> y.session(0, 4), y -> y.lengthOf(2), y -> y.lengthOf(0)};
+            for (int i = 0; i < acts.length; i++) {
+                Still.Question act = acts[i];
+                String due = Suite.told(() -> act.of(Still.made(run).x));
+                for (int k = 0; k < others.length; k++) {
+                    Still.Run asked = Still.then(run, others[k]);
+                    s.due("act " + i + " behind question " + k, due, () -> act.of(Still.made(asked).x));
+                    Still.same(s, "after act " + i + " behind question " + k, Still.then(run, act), Still.then(asked, act));
+                }
+            }
         });
     }
 
@@ -168,8 +196,12 @@ final class ActEdges {
             s.due("a session beside a full document, which does not end", 1, () -> Still.made(full).x.expand(3));
         });
         e.test("if it would end at once also those of section 4", s -> {
-            String library = "snippet a{" + "$1".repeat(11) + "}snippet b{" + x(36) + "}snippet c{" + x(37) + "}snippet d{" + x(40) + "}snippet e{" + x(41) + "}";
-            s.due("36 bytes in 11 places", "1 396", () -> Bench.open(library).x.expand(1) + " " + 396);
+            String library = "snippet a{" + "$1".repeat(11) + "}snippet b{" + x(36) + "}snippet c{" + x(37) + "}snippet d{" + x(40) + "}"
+                    + "snippet e{" + x(41) + "}";
+            s.due("36 bytes in 11 places", "1 396", () -> {
+                SnippetExpander y = Bench.open(library).x;
+                return y.expand(1) + " " + y.session(0, 3);
+            });
             Still.whenRefused(s, "37 bytes in 11 places", opened(library), 3, y -> y.expand(2));
             Still.whenRefused(s, "40 bytes in 11 places", opened(library), 3, y -> y.expand(3));
             Still.whenRefused(s, "41 bytes: 4 ahead of 3", opened(library), 4, y -> y.expand(4));
@@ -408,6 +440,14 @@ final class ActEdges {
             Still.whenRefused(s, "7 of 0 alone", opened("snippet a{$0}"), 7, SnippetExpander::previous);
             Still.whenRefused(s, "7 by places", opened("order places;snippet a{$2$1}"), 7, SnippetExpander::previous);
             s.due("from 1 to 2 by places", 2, () -> Still.made(Still.then(opened("order places;snippet a{$2$1}"), y -> y.go(1))).x.previous());
+            s.due("behind a session that was dropped", "8 1 -7", () -> {
+                Bench b = Bench.with("snippet a{$9$8$1}snippet b{$4$3$9$2}");
+                b.x.expand(0);
+                b.x.go(9);
+                b.x.expand(1);
+                b.x.drop();
+                return b.x.previous() + " " + b.x.previous() + " " + b.x.previous();
+            });
             s.due("no field ahead that is live", -7, () -> {
                 Bench b = Bench.open("order places;snippet a{${1:$2}$2}");
                 b.type("t");

@@ -52,10 +52,27 @@ final class FieldEdges {
             Bench empty = Bench.open("snippet a{${1:x}}");
             empty.x.erase();
             s.due("typed with an empty text", "1 0", () -> empty.x.field(1, 1) + " " + empty.x.field(1, 5));
+            Bench again = Bench.open("snippet a{$0$1}");
+            again.type("x");
+            again.x.go(0);
+            again.type("x");
+            again.x.drop();
+            again.x.expand(0);
+            s.due("at first, where another session was", "0 0", () -> again.x.session(0, 2) + " " + again.x.session(0, 3));
+            s.due("a byte behind nothing", "1 x", () -> again.type("x") + " " + again.text());
+            again.x.go(0);
+            s.due("a byte behind nothing in 0", "1 xx", () -> again.type("x") + " " + again.text());
         });
         e.test("Otherwise it is what its shown default tells; it is empty if none is shown.", s -> {
             Bench b = Bench.open("snippet a{${1:a${2:b}}${2:c}$3${4:}}");
             s.due("defaults that are shown", "ab b", () -> b.value(1) + " " + b.value(2));
+            s.due("a default of 0 and of 9", "ab b", () -> {
+                Bench c = Bench.open("snippet a{${0:a${9:b}}}");
+                return c.value(0) + " " + c.value(9);
+            });
+            s.due("a default by way of all 10 fields", "abcdefghij abcdefghij", () ->
+                    Bench.open("snippet a{${0:a$1}${1:b$2}${2:c$3}${3:d$4}${4:e$5}${5:f$6}${6:g$7}${7:h$8}${8:i$9}${9:j}}").value(0) + " "
+                    + Bench.open("snippet a{${9:a$8}${8:b$7}${7:c$6}${6:d$5}${5:e$4}${4:f$3}${3:g$2}${2:h$1}${1:i$0}${0:j}}").value(9));
             s.due("no default", "", () -> b.value(3));
             s.due("an empty default", "", () -> b.value(4));
             b.type("t");
@@ -134,6 +151,7 @@ final class FieldEdges {
         e.test("with the order \"places\" those from 1 to 9 by the numbers of their first shown occurrences", s -> {
             s.due("all", "9876543210", () -> Bench.open("order places;snippet a{$0$9$8$7$6$5$4$3$2$1}").order());
             s.due("first ones that are not shown", "132", () -> Bench.open("order places;snippet a{${1:}${1:$2}$3$2$3}").order());
+            s.due("the last one of 60 occurrences", "120", () -> Bench.open("order places;snippet a{" + "$0".repeat(30) + "$1".repeat(29) + "$2}").order());
             s.due("first ones in a default", "213", () -> Bench.open("order places;snippet a{${2:$1}$3$1}").order());
         });
         e.test("0 is the last one in both cases, if it is live.", s -> {
@@ -153,6 +171,8 @@ final class FieldEdges {
             }
             s.due("the outermost one", "0 1 0 1 2", () -> told(b.x, 0));
             s.due("the innermost one of 4", "3 4 0 4 16", () -> told(b.x, 3));
+            s.due("each for itself", "16 2 8 4 1 3 2", () -> b.x.session(3, 4) + " " + b.x.session(0, 4) + " " + b.x.session(2, 4) + " "
+                    + b.x.session(1, 4) + " " + b.x.session(0, 3) + " " + b.x.session(2, 3) + " " + b.x.session(1, 3));
             s.throwsIndex("level 4", () -> b.x.session(4, 0));
             b.x.drop();
             s.throwsIndex("level 3 of 3", () -> b.x.session(3, 0));

@@ -309,6 +309,9 @@ final class LibraryEdges {
         e.test("Returns how long its TEXT would be if it was expanded; 100000 if it would be 100000 or longer.", s -> {
             s.due("empty", 0, () -> Bench.with("snippet a{}").x.lengthOf(0));
             s.due("empty with fields", 0, () -> Bench.with("snippet a{$1${2:}}").x.lengthOf(0));
+            s.due("by way of all 10 fields", "55 55", () ->
+                    Bench.with("snippet a{${0:a$1}${1:b$2}${2:c$3}${3:d$4}${4:e$5}${5:f$6}${6:g$7}${7:h$8}${8:i$9}${9:j}}").x.lengthOf(0) + " "
+                    + Bench.with("snippet a{${9:a$8}${8:b$7}${7:c$6}${6:d$5}${5:e$4}${4:f$3}${3:g$2}${2:h$1}${1:i$0}${0:j}}").x.lengthOf(0));
             s.due("400", 400, () -> Bench.with("snippet a{" + "x".repeat(400) + "}").x.lengthOf(0));
             s.due("401, which is refused", 401, () -> Bench.with("snippet a{" + "x".repeat(401) + "}").x.lengthOf(0));
             s.due("99999", 99999, () -> Bench.with("snippet a{" + tower + "}").x.lengthOf(0));

@@ -64,6 +64,7 @@ final class QuestionEdges {
             s.due("typed with an empty text", 2, () -> empty.x.why(2));
         });
         e.test("3 that default belongs to an occurrence that is shown and whose field is not typed (it yields to an earlier one)", s -> {
+            s.due("the last one of 60 occurrences", 3, () -> Bench.open("snippet a{" + "${1:}".repeat(58) + "${1:$2}}").x.why(2));
             s.due("the second default of 1", "1031111111", () -> whys(Bench.open("snippet a{${1:}${1:$2}}")));
             s.due("the third default of 1", "1033111111", () -> whys(Bench.open("snippet a{${1:}${1:$2}${1:$3}}")));
         });
@@ -163,6 +164,7 @@ final class QuestionEdges {
         e.test("Returns the bytes of the values of all live fields, added up, divided by the number of these fields, both converted to double.", s -> {
             s.due("an empty one", 0.0, () -> Bench.open("snippet a{$1}").x.meanLength());
             s.due("400 of one", 400.0, () -> Bench.open("snippet a{${1:" + "x".repeat(400) + "}}").x.meanLength());
+            s.due("5 of 0 and 9", 2.5, () -> Bench.open("snippet a{${0:xx}${9:yyy}}").x.meanLength());
             s.due("1 of 3", 1.0 / 3.0, () -> Bench.open("snippet a{${1:x}$2$3}").x.meanLength());
             s.due("800 of 2", 400.0, () -> Bench.open("snippet a{${1:${2:" + "x".repeat(400) + "}}}").x.meanLength());
             s.due("2 of 9", 2.0 / 9.0, () -> Bench.open("snippet a{${1:xx}$2$3$4$5$6$7$8$9}").x.meanLength());

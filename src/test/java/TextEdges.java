@@ -150,10 +150,18 @@ final class TextEdges {
             loads(s, "snippet a{" + "x".repeat(689) + "}", 1);
             loads(s, "x" + " ".repeat(699), "1@0");
             loads(s, " ".repeat(699) + "x", "1@699");
+            Bench again = new Bench();
+            for (int literals : new int[] {3, 5, 0, 1, 2}) {
+                again.load("snippet a{" + "$1".repeat(59) + "${2:" + "x".repeat(literals) + "}}");
+                s.due("literals in the default of the 60th occurrence, loaded again", literals, () -> again.x.lengthOf(0));
+            }
         });
         e.test("If it has no error, it replaces everything but the accounts: there is no session, the document is empty, "
                 + "no act can be undone, and nothing is saved.", s -> {
-            for (String text : new String[] {"", "snippet b{x}"}) {
+            String[] texts = {
+                "", "snippet b{x}", "order numbers;snippet b{$1$2$0}", "order places;snippet z{$0${5:${6/n}}$1$2$1$2}snippet lit{${9:${0:q}}}",
+            };
+            for (String text : texts) {
                 Still.Run fresh = b -> b.load(text);
                 Still.Run used = b -> {
                     busy(b);
@@ -193,7 +201,10 @@ final class TextEdges {
 
     /** A state in which each part has something that could get lost. */
     private static void busy(Bench b) {
+        b.load("order places;snippet z{${0:${1:z}}${2/n}${3/n}${4:$5${6:y}}zzz}");
+        b.load("order places;snippet y{${0:${1:y}}${2/n}${3/n}${4:$5${7:y}}yyy}");
         b.load("order places;snippet a{<${2:x$1}$3>}snippet b{lit}");
+        b.x.save(0);
         b.x.expand(1);
         b.x.expand(0);
         b.type("abc");
@@ -343,6 +354,18 @@ final class TextEdges {
             takes(s, "snippet a", "{", "}", blanks + LETTERS);
             takes(s, "snippet a{}order places", ";", "", blanks + LETTERS);
             takes(s, "snippet a{}", blanks, "", "");
+            String[] words = {"snippet", "order", "places", "numbers"};
+            String[] ahead = {"", "", "order ", "order "};
+            String[] behind = {" a{}", " places;", ";", ";"};
+            for (int i = 0; i < words.length; i++) {
+                for (int at = 0; at < words[i].length(); at++) {
+                    // another letter makes another word, which is wrong from its first letter on
+                    String changed = words[i].substring(0, at) + "z" + words[i].substring(at + 1);
+                    loads(s, ahead[i] + changed + behind[i], "1@" + ahead[i].length());
+                }
+                loads(s, ahead[i] + words[i].substring(1) + behind[i], "1@" + ahead[i].length());
+                loads(s, ahead[i] + words[i] + "s" + behind[i], "1@" + ahead[i].length());
+            }
             loads(s, "snippeta{}", "1@0");
             loads(s, "orderplaces;", "1@0");
             loads(s, "snippet a{}order placesnumbers;", "1@17");
@@ -353,7 +376,9 @@ final class TextEdges {
             loads(s, "\n", 0);
             loads(s, " \nsnippet \n a\n \n{} \norder\n\nplaces  ; \n", 1);
             loads(s, "snippet\na{}snippet b{}order\nplaces;", 2);
-            takes(s, "", blanks.replace(' ', '\n'), "snippet a{}", blanks + LETTERS);
+            takes(s, "", "", "snippet a{}", blanks + LETTERS);
+            loads(s, " snippet a{}", 1);
+            loads(s, "\nsnippet a{}", 1);
             takes(s, "snippet", blanks, "a{}", LETTERS);
             takes(s, "snippet a", blanks, "{}", "{" + LETTERS);
             takes(s, "snippet a{}order", blanks, "places;", LETTERS);
@@ -407,7 +432,13 @@ final class TextEdges {
                 30, 31, 32, 33, 34, 35, 36, 37, 38, 39, 40,
             };
             for (int length = 0; length < text.length(); length++) {
-                loads(s, text.substring(0, length), wrong[length] == NONE ? "0" : "1@" + wrong[length]);
+                String beginning = text.substring(0, length);
+                String due = wrong[length] == NONE ? "0" : "1@" + wrong[length];
+                loads(s, beginning, due);
+                // the bytes of an earlier text may not be read on
+                Bench later = new Bench();
+                later.load(text);
+                s.due("load of " + beginning + " behind the whole text", due, () -> later.loaded(beginning));
             }
             loads(s, text, "1");
             loads(s, "snippet ab? {}", "1@10");
