@@ -1,7 +1,5 @@
 /** Promises 28 to 37, and sections 3 and 4: acts and their reasons. */
 final class ActTests {
-    private static final int NONE = SnippetExpander.NONE;
-
     static void addTo(Suite suite) {
         suite.test("promise 28: expand", ActTests::expand);
         suite.test("promise 28: expand what ends at once", ActTests::expandAtOnce);
@@ -20,7 +18,6 @@ final class ActTests {
         suite.test("promise 36: drop", ActTests::drop);
         suite.test("promise 37: setOrder", ActTests::setOrder);
         suite.test("a refused act changes nothing", ActTests::refusedChangesNothing);
-        suite.test("the example of README.md", ActTests::example);
     }
 
     private static void expand(Suite s) {
@@ -501,17 +498,5 @@ final class ActTests {
             told.append(' ').append(x.session(0, what));
         }
         return told.append(' ').append(x.size(1)).append(x.size(3)).append(x.account(0)).toString();
-    }
-
-    private static void example(Suite s) {
-        SnippetExpander x = new SnippetExpander();
-        s.due("append", 19, () -> x.append(0x736e6970, 0x70657420, 0x617b6869, 0x20243121, 0x7d000000) + 2);
-        s.due("load", 1, x::load);
-        s.due("expand", 1, () -> x.expand(0));
-        x.append(0x426f6200, 0, 0, 0, 0);
-        s.due("type", 3, () -> x.type(3));
-        s.due("next", 10, x::next);
-        s.due("size(2)", 7, () -> x.size(2));
-        s.due("no snippet", NONE, x::find);
     }
 }

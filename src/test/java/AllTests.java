@@ -6,6 +6,7 @@ public final class AllTests {
         watch();
         Suite suite = new Suite();
         FaceTests.addTo(suite);
+        ReadmeTests.addTo(suite);
         LibraryTests.addTo(suite);
         SessionTests.addTo(suite);
         ActTests.addTo(suite);
