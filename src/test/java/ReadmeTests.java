@@ -12,6 +12,8 @@ final class ReadmeTests {
     private static final Path README = Path.of("README.md");
     private static final Pattern CALL = Pattern.compile("x\\.(\\w+)\\((.*)\\); *// (throws\\.\\w+|-?\\d+).*");
     private static final Pattern PUT = Pattern.compile("put\\(x, \"(.*)\"\\);");
+    private static final Pattern TEXT = Pattern.compile(".* TEXT is \"(.*)\"");
+    private static final Pattern DOCUMENT = Pattern.compile(".* document is \"(.*)\"");
 
     static void addTo(Suite suite) {
         suite.test("README.md: the examples", ReadmeTests::examples);
@@ -39,6 +41,7 @@ final class ReadmeTests {
             } else if (call.matches()) {
                 SnippetExpander x = bench.x;
                 s.due(line, call.group(3), () -> answer(x, call.group(1), call.group(2)));
+                texts(s, bench, line);
                 calls++;
             } else if (line.startsWith("x.")) {
                 s.complain("no answer stands behind " + line);
@@ -46,6 +49,18 @@ final class ReadmeTests {
         }
         int asked = calls;
         s.due("calls with an answer", true, () -> asked > 20);
+    }
+
+    /** What the line says of the TEXT or the document that there is then. */
+    private static void texts(Suite s, Bench bench, String line) {
+        Matcher text = TEXT.matcher(line);
+        Matcher document = DOCUMENT.matcher(line);
+        if (text.matches()) {
+            s.due("the TEXT of " + line, text.group(1), bench::text);
+        }
+        if (document.matches()) {
+            s.due("the document of " + line, document.group(1), bench::document);
+        }
     }
 
     private static Object answer(SnippetExpander x, String name, String list) {
