@@ -340,27 +340,43 @@ final class Model {
         }
 
         String value(int field) {
+            return value(field, new HashMap<>());
+        }
+
+        /** A value that was told once is known: values of values would take too long, even if all are empty. */
+        private String value(int field, Map<Integer, String> known) {
+            if (!known.containsKey(field)) {
+                known.put(field, newValue(field, known));
+            }
+            return known.get(field);
+        }
+
+        private String newValue(int field, Map<Integer, String> known) {
             if (typed.containsKey(field)) {
                 return typed.get(field);
             }
             Occurrence o = shownDefault(field);
-            return o == null ? "" : tell(o.body);
+            return o == null ? "" : tell(o.body, known);
         }
 
-        String tell(List<Node> body) {
+        private String tell(List<Node> body, Map<Integer, String> known) {
             StringBuilder told = new StringBuilder();
             for (Node node : body) {
                 if (node.occurrence == null) {
                     told.append(node.literal);
                 } else {
-                    told.append(changed(node.occurrence));
+                    told.append(changed(node.occurrence, known));
                 }
             }
             return told.toString();
         }
 
         String changed(Occurrence o) {
-            String value = value(o.field);
+            return changed(o, new HashMap<>());
+        }
+
+        private String changed(Occurrence o, Map<Integer, String> known) {
+            String value = value(o.field, known);
             StringBuilder changed = new StringBuilder();
             switch (o.change) {
                 case 1:
@@ -383,7 +399,7 @@ final class Model {
         }
 
         String text() {
-            return tell(snippet.body);
+            return tell(snippet.body, new HashMap<>());
         }
 
         /** The length of the TEXT, also where the text itself would be too long to be made. */
